@@ -41,7 +41,7 @@ public final class SendTest {
                 Due.due(name + " waiting(0)", x.waiting(0), right ? length : 0);
             }
         }
-        // Six bytes that say 65536 behind them, and six that would say none if the number wrapped.
+        // 65535 says 65536 bytes more: none, if it were counted in 16 bits.
         Due.due("send of 6", Due.send(new DownFrames(64), 0, new int[] {0, 0, 0, 0, 255, 255}), DownFrames.NONE);
     }
 
