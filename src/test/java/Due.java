@@ -1,3 +1,5 @@
+import java.util.Arrays;
+
 /** What the tests share: the count of wrong answers, and packets to send. */
 final class Due {
     private static int wrong = 0;
@@ -69,5 +71,60 @@ final class Due {
         for (int i = from; i < from + n; i++) {
             due(name + " byte " + i, got[i], value);
         }
+    }
+
+    /** All that an object shows without being changed: its counts, what waits, the latest frame. */
+    static int[] seen(DownFrames x) {
+        int length = x.count(5);
+        int[] seen = new int[8 + length];
+        for (int what = 0; what < 6; what++) {
+            seen[what] = x.count(what);
+        }
+        seen[6] = x.waiting(0);
+        seen[7] = x.waiting(1);
+        for (int k = 0; k < length; k++) {
+            seen[8 + k] = x.byteAt(k);
+        }
+        return seen;
+    }
+
+    static void dueSeen(String name, DownFrames x, int[] want) {
+        dueBytes(name + ", seen", seen(x), 0, want);
+    }
+
+    /** What an object shows after a send that was refused: only the tape is another, empty. */
+    static void dueOnlyTapeEmptied(String name, DownFrames x, int[] before) {
+        int[] want = before.clone();
+        want[4] = 0;
+        dueSeen(name, x, want);
+    }
+
+    /** FIRST of the latest frame; the bits 00011 before it are looked at too. */
+    static int first(DownFrames x) {
+        return x.byteAt(4) * 256 + x.byteAt(5) - (3 << 11);
+    }
+
+    static int[] field(DownFrames x) {
+        int[] frame = latest(x);
+        return Arrays.copyOfRange(frame, 6, frame.length - 6);
+    }
+
+    static int[] joined(int[]... rows) {
+        int[] all = {};
+        for (int[] row : rows) {
+            int size = all.length;
+            all = Arrays.copyOf(all, size + row.length);
+            System.arraycopy(row, 0, all, size, row.length);
+        }
+        return all;
+    }
+
+    /** An empty packet of so many bytes, as the document's Terms have it. */
+    static int[] emptyPacket(int length) {
+        int[] bytes = new int[length];
+        Arrays.fill(bytes, 85);
+        int[] head = {7, 255, 192, 0, (length - 7) / 256, (length - 7) % 256};
+        System.arraycopy(head, 0, bytes, 0, 6);
+        return bytes;
     }
 }
