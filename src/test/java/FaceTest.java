@@ -37,7 +37,27 @@ public final class FaceTest {
         }
         int modifiers = DownFrames.class.getModifiers();
         Due.due("public and final", Modifier.isPublic(modifiers) && Modifier.isFinal(modifiers), true);
+        Due.due("its class above is Object", DownFrames.class.getSuperclass() == Object.class, true);
+        Due.due("interfaces", DownFrames.class.getInterfaces().length, 0);
+        Due.due("NONE", DownFrames.NONE, -1);
+        classesInside();
         Due.end();
+    }
+
+    private static void classesInside() {
+        Set<String> face = Set.of("give", "send", "frame", "byteAt", "waiting", "count");
+        for (Method method : DownFrames.class.getDeclaredMethods()) {
+            boolean again = Modifier.isPrivate(method.getModifiers()) && face.contains(method.getName());
+            Due.due("private, with a public one's name: " + method, again, false);
+        }
+        for (Class<?> inside : DownFrames.class.getDeclaredClasses()) {
+            int modifiers = inside.getModifiers();
+            Due.due(inside + " is static", Modifier.isStatic(modifiers), true);
+            Due.due(inside + " is seen", Modifier.isPublic(modifiers) || Modifier.isProtected(modifiers), false);
+            for (Method method : inside.getDeclaredMethods()) {
+                Due.due("a public one's name: " + method, face.contains(method.getName()), false);
+            }
+        }
     }
 
     private static void addIfSeen(Set<String> seen, int modifiers, String member) {
